@@ -1,0 +1,170 @@
+import java.lang.management.ManagementFactory;
+import java.lang.reflect.Constructor;
+import java.lang.reflect.Field;
+import java.lang.reflect.Method;
+import java.lang.reflect.Modifier;
+import java.nio.file.Files;
+import java.nio.file.Path;
+import java.util.Arrays;
+import java.util.List;
+import java.util.Set;
+import java.util.TreeSet;
+import java.util.regex.Pattern;
+import java.util.stream.Collectors;
+
+/** The rules of the language: the face, the words that are ruled out, the room, and that no call throws. */
+final class LanguageTest {
+    private static final Due DUE = new Due();
+    private static final String[] FACE = {
+        "int letter(int)", "int blank()", "int fault()", "int word()", "int road(int,int)", "int sign(int,int)",
+        "int table(int,int)", "int form(int,int)", "int end(int,int)", "int alike(int,int)", "int cross(int,int)",
+        "int turn(int,int)", "int change(int,int)", "int join(int,int)", "int times(int,int)", "int cut(int,int)",
+        "int drop()", "int river(int)", "int simple(int,int)", "int cycle(int,int)", "int step(int,int)",
+        "int trace(int,int)", "int flow(int,int,int,boolean)", "int lay(int)", "int where(int)",
+        "int drawn(int,int,int)", "int count(int)", "long digest()"};
+    private static final String[] RULED_OUT = {
+        "\\b(throw|throws|try|catch|synchronized|assert|import|package|native|protected)\\b", "->", "::",
+        "\\b(equals|hashCode|toString|System|Thread|Random|File)\\b", "Exact\\b", "\\b(Object|Exception|Error)\\b", "\"", "while"};
+    private static final int CALLS = 512;
+
+    public static void main(String[] args) throws Exception {
+        constants();
+        face();
+        names();
+        source(args.length > 0 ? args[0] : "src/main/java/RiverWords.java");
+        room();
+        neverThrows();
+        DUE.finish("LanguageTest");
+    }
+
+    private static void constants() {
+        DUE.due("NONE", RiverWords.NONE, Due.NONE);
+        DUE.due("UNKNOWN", RiverWords.UNKNOWN, Due.UNKNOWN);
+        DUE.due("OUTSIDE", RiverWords.OUTSIDE, Due.OUTSIDE);
+        DUE.due("STATE", RiverWords.STATE, Due.STATE);
+        DUE.due("FULL", RiverWords.FULL, Due.FULL);
+    }
+
+    private static String signature(Method method) {
+        String types = Arrays.stream(method.getParameterTypes()).map(Class::getName).collect(Collectors.joining(","));
+        return method.getReturnType().getName() + " " + method.getName() + "(" + types + ")";
+    }
+
+    private static void same(String what, Set<String> got, Set<String> want) {
+        boolean same = got.equals(want);
+        DUE.due(what + ": " + (same ? "" : got), same ? 1 : 0, 1);
+    }
+
+    private static void face() {
+        Set<String> methods = new TreeSet<>();
+        for (Method method : RiverWords.class.getDeclaredMethods()) {
+            if (!Modifier.isPrivate(method.getModifiers()) && !method.isSynthetic()) {
+                methods.add(signature(method));
+                DUE.due(method + " is public", method.getModifiers(), Modifier.PUBLIC);
+            }
+        }
+        same("the methods", methods, new TreeSet<>(List.of(FACE)));
+        Set<String> fields = new TreeSet<>();
+        for (Field field : RiverWords.class.getDeclaredFields()) {
+            if (!Modifier.isPrivate(field.getModifiers())) {
+                fields.add(Modifier.toString(field.getModifiers()) + " " + field.getType() + " " + field.getName());
+            }
+        }
+        Set<String> constants = new TreeSet<>();
+        for (String name : new String[] {"NONE", "UNKNOWN", "OUTSIDE", "STATE", "FULL"}) {
+            constants.add("public static final int " + name);
+        }
+        same("the constants", fields, constants);
+        Constructor<?>[] constructors = RiverWords.class.getDeclaredConstructors();
+        DUE.due("the constructors", constructors.length, 1);
+        DUE.due("the constructor is public and takes nothing", constructors[0].getParameterCount()
+            + constructors[0].getModifiers(), Modifier.PUBLIC);
+        DUE.due("the class is public and final", RiverWords.class.getModifiers(), Modifier.PUBLIC | Modifier.FINAL);
+    }
+
+    /** No private method bears the name of a public one; the classes inside are static; static fields are final. */
+    private static void names() {
+        Set<String> open = new TreeSet<>();
+        for (String signature : FACE) {
+            open.add(signature.substring(signature.indexOf(' ') + 1, signature.indexOf('(')));
+        }
+        for (Method method : RiverWords.class.getDeclaredMethods()) {
+            boolean hidden = Modifier.isPrivate(method.getModifiers());
+            DUE.due("private " + method.getName(), hidden && open.contains(method.getName()) ? 1 : 0, 0);
+        }
+        for (Class<?> inside : RiverWords.class.getDeclaredClasses()) {
+            DUE.due(inside + " is static", Modifier.isStatic(inside.getModifiers()) ? 1 : 0, 1);
+            for (Method method : inside.getDeclaredMethods()) {
+                DUE.due(inside + " " + method.getName(), open.contains(method.getName()) ? 1 : 0, 0);
+            }
+            for (Field field : inside.getDeclaredFields()) {
+                boolean changeable = Modifier.isStatic(field.getModifiers()) && !Modifier.isFinal(field.getModifiers());
+                DUE.due(field + " is static and not final", changeable ? 1 : 0, 0);
+            }
+        }
+    }
+
+    private static void source(String file) throws Exception {
+        String text = Files.readString(Path.of(file));
+        String code = text.replaceAll("(?s)/\\*.*?\\*/", "").replaceAll("//.*", "");
+        for (String ruledOut : RULED_OUT) {
+            DUE.due("the source has " + ruledOut, Pattern.compile(ruledOut).matcher(code).find() ? 1 : 0, 0);
+        }
+        DUE.due("signs above 127", text.chars().filter(sign -> sign > 126).count(), 0);
+    }
+
+    private interface Call {
+        long answer(RiverWords words, int number);
+    }
+
+    /** What a run makes stays far below the room of 600,000 objects and 7.3 million fields and elements. */
+    private static void room() {
+        com.sun.management.ThreadMXBean threads = (com.sun.management.ThreadMXBean) ManagementFactory.getThreadMXBean();
+        Call[] calls = {(words, n) -> words.digest(), (words, n) -> words.river(n % 2 == 0 ? 889 : 897),
+            (words, n) -> words.drawn(40, n, 2), (words, n) -> words.cross(0, 1), (words, n) -> words.flow(1, 1, -224, true),
+            (words, n) -> words.trace(0, 997), (words, n) -> words.change(0, n % 3),
+            (words, n) -> n % 2 == 0 ? words.cut(34, 55) : words.drop()};
+        for (int call = 0; call < calls.length; call++) {
+            RiverWords words = Due.with("L9R9LR", "LRLRLRLRLRLRLRLRLRLR", "L9LR", "LR", "R9L3");
+            words.river(897);
+            long before = threads.getCurrentThreadAllocatedBytes();
+            for (int n = 0; n < CALLS; n++) {
+                calls[call].answer(words, n);
+            }
+            long made = threads.getCurrentThreadAllocatedBytes() - before;
+            DUE.due("call " + call + " made " + made + " bytes", made < 200000 ? 1 : 0, 1);
+        }
+    }
+
+    private static final int[] WILD = {Integer.MIN_VALUE, Integer.MIN_VALUE + 1, -2000000001, -1000, -999, -1, 0, 1, 2, 5, 6, 7, 8,
+        19, 20, 21, 31, 32, 76, 82, 99, 100, 319, 320, 888, 889, 999, 1000, Integer.MAX_VALUE - 1, Integer.MAX_VALUE};
+
+    /** Every call with every pair of wild arguments, in several states, answers something. */
+    private static void neverThrows() {
+        RiverWords[] states = {new RiverWords(), Due.with("LR", "L9R9L2", "R"), Due.full("L9R9L2"), Due.with("R9R9R2")};
+        states[1].river(889);
+        states[3].river(5);
+        int ended = 0;
+        for (RiverWords words : states) {
+            for (int one : WILD) {
+                for (int other : WILD) {
+                    wildCalls(words, one, other);
+                    ended++;
+                }
+            }
+            words.digest();
+        }
+        DUE.due("the rounds that ended", ended, states.length * WILD.length * WILD.length);
+    }
+
+    private static long wildCalls(RiverWords words, int one, int other) {
+        long sum = words.letter(one) + words.fault() + words.word() + words.blank() + words.road(one, other) + words.sign(one, other);
+        sum += words.table(one, other) + words.form(one, other) + words.end(one, other) + words.alike(one, other);
+        sum += words.cross(one, other) + words.turn(one, other) + words.change(one, other) + words.join(one, other);
+        sum += words.times(one, other) + words.cut(one, other) + words.simple(one, other) + words.cycle(one, other);
+        sum += words.step(one, other) + words.trace(one, other) + words.lay(one) + words.where(one) + words.count(one);
+        sum += words.flow(one, other, one, true) + words.flow(one, one, other, false) + words.drawn(one, other, one % 4);
+        sum += words.drawn(one, other, 2) + words.river(one) + words.river(other);
+        return sum;
+    }
+}
