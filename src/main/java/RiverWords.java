@@ -541,6 +541,7 @@ public final class RiverWords {
     private static final class Word {
         int bits;
         int size;
+        private int allBits;
         int a;
         int b;
         int c;
@@ -553,6 +554,7 @@ public final class RiverWords {
         void become(int newBits, int newSize) {
             bits = newBits;
             size = newSize;
+            allBits = (1 << newSize) - 1;
             a = 1;
             b = 0;
             c = 0;
@@ -572,12 +574,8 @@ public final class RiverWords {
             return bits >> (size - 1 - place) & 1;
         }
 
-        private int allBits() {
-            return (1 << size) - 1;
-        }
-
         boolean isClosed() {
-            return bits != 0 && bits != allBits();
+            return bits != 0 && bits != allBits;
         }
 
         int traceSum() {
@@ -585,7 +583,7 @@ public final class RiverWords {
         }
 
         int rotation(int by) {
-            return (bits << by | bits >> (size - by)) & allBits();
+            return (bits << by | bits >> (size - by)) & allBits;
         }
 
         int reversal() {
@@ -598,7 +596,7 @@ public final class RiverWords {
 
         /** The complement of a word that is as long as this one. */
         int complement(int otherBits) {
-            return otherBits ^ allBits();
+            return otherBits ^ allBits;
         }
 
         int changed(int how) {

@@ -207,6 +207,15 @@ final class RiverTest {
             DUE.refused(words, "24: b is " + wild, () -> words.flow(1, wild, -3, true), Due.OUTSIDE);
             DUE.refused(words, "24: c is " + wild, () -> words.flow(1, 0, wild, true), Due.OUTSIDE);
         }
+        RiverWords edge = with(96);
+        // 64 * 64 - 4 * 1000 is 96, and 1000 * 1000 - 4 * 289 * 865 is 60: only one number is out of range, by 1.
+        DUE.refused(edge, "24: a is 1000", () -> edge.flow(1000, 64, 1, true), Due.OUTSIDE);
+        DUE.refused(edge, "24: c is 1000", () -> edge.flow(1, 64, 1000, true), Due.OUTSIDE);
+        DUE.refused(edge, "24: a is -1000", () -> edge.flow(-1000, 64, -1, false), Due.OUTSIDE);
+        DUE.refused(edge, "24: c is -1000", () -> edge.flow(-1, 64, -1000, false), Due.OUTSIDE);
+        RiverWords middle = with(60);
+        DUE.refused(middle, "24: b is 1000", () -> middle.flow(289, 1000, 865, true), Due.OUTSIDE);
+        DUE.refused(middle, "24: b is -1000", () -> middle.flow(289, -1000, 865, true), Due.OUTSIDE);
         RiverWords divided = with(20);
         DUE.refused(divided, "24: a common divisor", () -> divided.flow(2, 2, -2, true), Due.OUTSIDE);
         DUE.refused(divided, "24: a common divisor", () -> divided.flow(2, 6, 2, false), Due.OUTSIDE);
@@ -293,6 +302,7 @@ final class RiverTest {
                 DUE.due("25: lay(" + cycle + ") of " + d, words.lay(cycle), want);
                 if (want == 0) {
                     DUE.letters("25: lay(" + cycle + ") of " + d, words, 0, model.letters(0));
+                    DUE.due("25: letters R of " + d, words.road(0, 2), model.road(0, 2));
                     DUE.due("26: where(0) of " + d, words.where(0), model.cycle(cycle, 0));
                     words.drop();
                     model.drop();

@@ -75,6 +75,7 @@ final class RoadChangeTest {
         DUE.refused(words, "15: join(2, 1) of 21 letters", () -> words.join(2, 1), Due.STATE);
         DUE.refused(words, "15: join(4, 4) of 40 letters", () -> words.join(4, 4), Due.STATE);
         DUE.due("15: join(0, 0)", words.join(0, 0), 5);
+        DUE.due("15: two letters R", words.road(5, 2), 2);
         DUE.letters("15: join(0, 0)", words, 5, "LLRLLR");
         DUE.due("15: a joined road is not read", words.count(4), 3);
         DUE.refused(words, "15: join(0, 1) with six roads", () -> words.join(0, 1), Due.FULL);
@@ -104,6 +105,15 @@ final class RoadChangeTest {
         DUE.refused(words, "16: times(2, 2) with six roads", () -> words.times(2, 2), Due.STATE);
         DUE.refused(words, "16: times(2, 6) with six roads", () -> words.times(2, 6), Due.OUTSIDE);
         DUE.refused(words, "16: times(6, 6) with six roads", () -> words.times(6, 6), Due.UNKNOWN);
+        // What is counted and compared sees letters that no index reaches.
+        RiverWords rights = Due.with("R2", "R6", "LR");
+        DUE.due("16: times(0, 3)", rights.times(0, 3), 3);
+        DUE.due("16: no letter too many", rights.road(3, 2), 6);
+        DUE.due("16: not closed", rights.road(3, 6), 0);
+        DUE.due("16: equal to the word that was read", rights.alike(3, 1), 0);
+        DUE.due("16: times(2, 4)", rights.times(2, 4), 4);
+        DUE.due("16: four letters R", rights.road(4, 2), 4);
+        DUE.due("16: four letters L", rights.road(4, 1), 4);
         for (int wild : Due.WILD) {
             DUE.refused(words, "16: times(" + wild + ", 1)", () -> words.times(wild, 1), Due.UNKNOWN);
             DUE.refused(words, "16: times(2, " + wild + ")", () -> words.times(2, wild), Due.OUTSIDE);
@@ -157,6 +167,7 @@ final class RoadChangeTest {
                 DUE.due("17: cut(" + p + ", " + q + ")", words.cut(p, q), want);
                 if (want == 0) {
                     DUE.letters("17: cut(" + p + ", " + q + ")", words, 0, model.letters(0));
+                    DUE.due("17: digest after cut(" + p + ", " + q + ")", words.digest(), model.digest());
                     words.drop();
                     model.drop();
                 }
