@@ -92,7 +92,7 @@ final class Model {
         return number;
     }
 
-    private static String rotation(String word, int k) {
+    static String rotation(String word, int k) {
         return word.substring(k) + word.substring(0, k);
     }
 
@@ -250,7 +250,7 @@ final class Model {
         throw new IllegalStateException(u + " and " + v + " never part");
     }
 
-    private static int crossings(String u, String v) {
+    static int crossings(String u, String v) {
         int found = 0;
         for (int i = 0; i < u.length(); i++) {
             for (int j = 0; j < v.length(); j++) {
