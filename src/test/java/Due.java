@@ -67,7 +67,8 @@ final class Due {
 
     static String letters(RiverWords words, int road) {
         StringBuilder letters = new StringBuilder();
-        for (int place = 0; place < words.road(road, 0); place++) {
+        int size = words.road(road, 0);
+        for (int place = 0; place < size; place++) {
             letters.append((char) words.sign(road, place));
         }
         return letters.toString();

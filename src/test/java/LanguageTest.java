@@ -25,7 +25,8 @@ final class LanguageTest {
     private static final String[] RULED_OUT = {
         "\\b(throw|throws|try|catch|synchronized|assert|import|package|native|protected)\\b", "->", "::",
         "\\b(equals|hashCode|toString|System|Thread|Random|File)\\b", "Exact\\b", "\\b(Object|Exception|Error)\\b", "\"", "while"};
-    private static final int CALLS = 512;
+    /** With the calls that come before, an object gets no more than 512. */
+    private static final int CALLS = 470;
 
     public static void main(String[] args) throws Exception {
         constants();
@@ -141,20 +142,21 @@ final class LanguageTest {
 
     /** Every call with every pair of wild arguments, in several states, answers something. */
     private static void neverThrows() {
-        RiverWords[] states = {new RiverWords(), Due.with("LR", "L9R9L2", "R"), Due.full("L9R9L2"), Due.with("R9R9R2")};
-        states[1].river(889);
-        states[3].river(5);
         int ended = 0;
-        for (RiverWords words : states) {
+        for (Edge.State state : Edge.STATES) {
             for (int one : WILD) {
+                RiverWords words = state.start().make();
                 for (int other : WILD) {
-                    wildCalls(words, one, other);
+                    wildCalls(state.start().make(), one, other);
                     ended++;
                 }
+                for (int round = 0; round < 10; round++) {
+                    wildCalls(words, one, WILD[round]);
+                }
+                words.digest();
             }
-            words.digest();
         }
-        DUE.due("the rounds that ended", ended, states.length * WILD.length * WILD.length);
+        DUE.due("the rounds that ended", ended, Edge.STATES.size() * WILD.length * WILD.length);
     }
 
     private static long wildCalls(RiverWords words, int one, int other) {

@@ -185,7 +185,11 @@ final class Model {
     }
 
     private static long divisor(long... numbers) {
-        for (long g = 100000; g > 1; g--) {
+        long largest = 1;
+        for (long number : numbers) {
+            largest = Math.max(largest, Math.abs(number));
+        }
+        for (long g = largest; g > 1; g--) {
             boolean all = true;
             for (long number : numbers) {
                 all &= number % g == 0;

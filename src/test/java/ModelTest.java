@@ -1,7 +1,8 @@
 /** All promises: long runs of calls, drawn from fixed seeds, are compared with the model call by call. */
 final class ModelTest {
     private static final Due DUE = new Due();
-    private static final int RUNS = 80, CALLS = 512;
+    /** No object is used for more than 512 calls; a round of them has at most 20, and one call ends a run. */
+    private static final int RUNS = 400, MOST_CALLS = 512, MOST_IN_ROUND = 20;
     private static final int[] EDGES = {-1, 0, 1, 2, 3, 5, 6, 7, 8, 9, 10, 20, 99, 100, 997, 1000, 1001, Integer.MIN_VALUE,
         Integer.MAX_VALUE};
 
@@ -9,6 +10,7 @@ final class ModelTest {
     private final Model model = new Model();
     private final int run;
     private long state;
+    private int calls;
 
     private ModelTest(int run) {
         this.run = run;
@@ -43,7 +45,10 @@ final class ModelTest {
     }
 
     private void compareRun() {
-        for (int call = 0; call < CALLS; call++) {
+        if (run % 2 == 0) {
+            river();
+        }
+        while (calls + MOST_IN_ROUND < MOST_CALLS) {
             int kind = pick(29);
             if (kind < 5) {
                 page(kind);
@@ -61,7 +66,11 @@ final class ModelTest {
     }
 
     private void compare(String call, long got, long want) {
+        calls++;
         DUE.due("run " + run + ": " + call, got, want);
+        if (calls > MOST_CALLS) {
+            throw new IllegalStateException("too many calls for one object");
+        }
     }
 
     private void page(int kind) {
@@ -121,10 +130,14 @@ final class ModelTest {
         }
     }
 
+    private void river() {
+        int d = number(4, pick(2) == 0 ? 60 : 901);
+        compare("river(" + d + ")", words.river(d), model.river(d));
+    }
+
     private void river(int kind) {
-        if (kind == 18 && pick(6) == 0) {
-            int d = number(4, pick(2) == 0 ? 60 : 901);
-            compare("river(" + d + ")", words.river(d), model.river(d));
+        if (kind == 18) {
+            river();
         }
         int form = number(0, Math.max(0, model.count(5)));
         int cycle = cycleNumber();

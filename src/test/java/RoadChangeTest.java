@@ -159,16 +159,15 @@ final class RoadChangeTest {
     }
 
     private static void everyCut() {
-        RiverWords words = new RiverWords();
         Model model = new Model();
         for (int p = 0; p <= 100; p++) {
             for (int q = 0; q <= 100; q++) {
+                RiverWords words = new RiverWords();
                 int want = model.cut(p, q);
                 DUE.due("17: cut(" + p + ", " + q + ")", words.cut(p, q), want);
                 if (want == 0) {
                     DUE.letters("17: cut(" + p + ", " + q + ")", words, 0, model.letters(0));
                     DUE.due("17: digest after cut(" + p + ", " + q + ")", words.digest(), model.digest());
-                    words.drop();
                     model.drop();
                 }
             }

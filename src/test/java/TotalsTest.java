@@ -43,6 +43,9 @@ final class TotalsTest {
         RiverWords words = new RiverWords();
         Model model = new Model();
         for (int i = 0; i < 400; i++) {
+            if (i % 100 == 0) {
+                words = new RiverWords();
+            }
             int seed = i < 200 ? i : i < 300 ? Integer.MAX_VALUE - i : i * 7654321 & Integer.MAX_VALUE;
             int times = 1 + i % 40;
             for (int what = 0; what < 4; what++) {
@@ -50,11 +53,12 @@ final class TotalsTest {
                 DUE.due(call, words.drawn(times, seed, what), model.drawn(times, seed, what));
             }
         }
-        openWords(words, model);
+        openWords(model);
     }
 
     /** Seeds whose first or second word is not closed. */
-    private static void openWords(RiverWords words, Model model) {
+    private static void openWords(Model model) {
+        RiverWords words = new RiverWords();
         int found = 0;
         for (int seed = 0; seed < 4000 && found < 30; seed++) {
             if (model.drawn(2, seed, 0) == 2) {
