@@ -330,7 +330,7 @@ final class EdgeRoadTest {
         cross("LR", RL19, 2);
         // By hand: they cross at (0, 0), before which the last letters are R and L, and at (2, 2).
         cross("LLR", "RRL", 2);
-        // Two words that are the same for 35 letters before a crossing, more than either has.
+        // Two words that are the same for 34 letters before a crossing, more than either has, and no two are for more.
         cross("RLRLRLRLRLRLRLRLLR", "RLRLRLRLRLRLRLRLLRRL", 164);
         cross("RLLRLLRLLRLLRLLLR", "RLLRLLRLLRLLRLLLRRLL", 134);
         cross("LRLRLRRLLLRLRLRLRRLL", "LRLRLRRLLLR", 80);

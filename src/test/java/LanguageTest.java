@@ -5,6 +5,7 @@ import java.lang.reflect.Method;
 import java.lang.reflect.Modifier;
 import java.nio.file.Files;
 import java.nio.file.Path;
+import java.util.ArrayList;
 import java.util.Arrays;
 import java.util.List;
 import java.util.Set;
@@ -28,11 +29,18 @@ final class LanguageTest {
     /** With the calls that come before, an object gets no more than 512. */
     private static final int CALLS = 470;
 
+    private static final Set<Class<?>> STATIC_TYPES = Set.of(int.class, long.class, boolean.class, char.class, String.class, int[].class,
+        long[].class, char[].class, byte[].class);
+    private static final int MOST_CLASSES = 12, MOST_FIELDS = 20, MOST_PARAMETERS = 7, MOST_LINES = 60;
+
     public static void main(String[] args) throws Exception {
+        String source = args.length > 0 ? args[0] : "src/main/java/RiverWords.java";
         constants();
         face();
         names();
-        source(args.length > 0 ? args[0] : "src/main/java/RiverWords.java");
+        shapes();
+        source(source);
+        lengths(source);
         room();
         neverThrows();
         DUE.finish("LanguageTest");
@@ -83,7 +91,7 @@ final class LanguageTest {
         DUE.due("the class is public and final", RiverWords.class.getModifiers(), Modifier.PUBLIC | Modifier.FINAL);
     }
 
-    /** No private method bears the name of a public one; the classes inside are static; static fields are final. */
+    /** No private method bears the name of a public one, and the classes inside are static. */
     private static void names() {
         Set<String> open = new TreeSet<>();
         for (String signature : FACE) {
@@ -98,11 +106,47 @@ final class LanguageTest {
             for (Method method : inside.getDeclaredMethods()) {
                 DUE.due(inside + " " + method.getName(), open.contains(method.getName()) ? 1 : 0, 0);
             }
-            for (Field field : inside.getDeclaredFields()) {
-                boolean changeable = Modifier.isStatic(field.getModifiers()) && !Modifier.isFinal(field.getModifiers());
-                DUE.due(field + " is static and not final", changeable ? 1 : 0, 0);
+        }
+    }
+
+    private static List<Class<?>> classes() {
+        List<Class<?>> classes = new ArrayList<>(List.of(RiverWords.class));
+        classes.addAll(List.of(RiverWords.class.getDeclaredClasses()));
+        return classes;
+    }
+
+    /** How many classes, fields and parameters there are, and that nothing static can hold a state. */
+    private static void shapes() {
+        DUE.due("the number of classes", classes().size() <= MOST_CLASSES ? 1 : 0, 1);
+        for (Class<?> one : classes()) {
+            int fields = 0;
+            for (Field field : one.getDeclaredFields()) {
+                boolean isStatic = Modifier.isStatic(field.getModifiers());
+                fields += isStatic ? 0 : 1;
+                DUE.due(field + " holds no state", isStatic && !STATIC_TYPES.contains(field.getType()) ? 1 : 0, 0);
+                DUE.due(field + " is final if it is static", isStatic && !Modifier.isFinal(field.getModifiers()) ? 1 : 0, 0);
+            }
+            DUE.due("the fields of " + one, fields <= MOST_FIELDS ? 1 : 0, 1);
+            for (Method method : one.getDeclaredMethods()) {
+                DUE.due("the parameters of " + method, method.getParameterCount() <= MOST_PARAMETERS ? 1 : 0, 1);
+            }
+            DUE.due("no class is inside " + one, one != RiverWords.class && one.getDeclaredClasses().length > 0 ? 1 : 0, 0);
+        }
+    }
+
+    /** A method begins with a line that opens it, and ends with a bracket as far to the right. */
+    private static void lengths(String file) throws Exception {
+        List<String> lines = Files.readAllLines(Path.of(file));
+        int methods = 0;
+        for (int i = 0; i < lines.size(); i++) {
+            if (lines.get(i).matches("(    |        )[A-Za-z][A-Za-z\\[\\]<> ]*\\([^()]*\\) \\{")) {
+                String end = lines.get(i).replaceAll("\\S.*", "}");
+                int size = lines.subList(i, lines.size()).indexOf(end) + 1;
+                DUE.due("the lines of " + lines.get(i).trim(), size > 0 && size <= MOST_LINES ? 1 : 0, 1);
+                methods++;
             }
         }
+        DUE.due("methods were found", methods >= FACE.length ? 1 : 0, 1);
     }
 
     private static void source(String file) throws Exception {

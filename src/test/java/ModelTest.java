@@ -1,7 +1,7 @@
 /** All promises: long runs of calls, drawn from fixed seeds, are compared with the model call by call. */
 final class ModelTest {
     private static final Due DUE = new Due();
-    /** No object is used for more than 512 calls; a round of them has at most 20, and one call ends a run. */
+    /** No object is used for more than 512 calls; a round of them has at most 20. */
     private static final int RUNS = 400, MOST_CALLS = 512, MOST_IN_ROUND = 20;
     private static final int[] EDGES = {-1, 0, 1, 2, 3, 5, 6, 7, 8, 9, 10, 20, 99, 100, 997, 1000, 1001, Integer.MIN_VALUE,
         Integer.MAX_VALUE};
@@ -62,6 +62,10 @@ final class ModelTest {
                 totals(kind);
             }
         }
+        while (calls + 1 < MOST_CALLS) {
+            compare("count(0)", words.count(0), model.count(0));
+        }
+        // The last of the 512 calls.
         compare("digest()", words.digest(), model.digest());
     }
 
