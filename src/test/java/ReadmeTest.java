@@ -174,6 +174,8 @@ final class ReadmeTest {
             Matcher argument = ARGUMENT.matcher(item);
             if (argument.matches()) {
                 names.append(names.length() == 0 ? "" : ", ").append(argument.group(1));
+                String said = section.signature() + " says from where to where " + argument.group(1) + " goes";
+                DUE.due(said, argument.group(2).contains(" to ") || argument.group(2).startsWith("true ") ? 1 : 0, 1);
                 Matcher range = RANGE.matcher(argument.group(2));
                 if (range.matches()) {
                     ranges.append(argument.group(1)).append(' ').append(range.group(1)).append(' ').append(range.group(2)).append(';');
