@@ -23,6 +23,7 @@ final class LanguageTest {
         "int drop()", "int river(int)", "int simple(int,int)", "int cycle(int,int)", "int step(int,int)",
         "int trace(int,int)", "int flow(int,int,int,boolean)", "int lay(int)", "int where(int)",
         "int drawn(int,int,int)", "int count(int)", "long digest()"};
+    /** Some of these the rules allow, but the program does without them, so that no case has to be told from another. */
     private static final String[] RULED_OUT = {
         "\\b(throw|throws|try|catch|synchronized|assert|import|package|native|protected)\\b", "->", "::",
         "\\b(equals|hashCode|toString|System|Thread|Random|File)\\b", "Exact\\b", "\\b(Object|Exception|Error)\\b", "\"", "while"};
